@@ -12,7 +12,6 @@ public final class ThrownRosesReturn {
     private static final int STUCK = -5;
     private static final int FULL = -6;
 
-    private static final int LEAST_CELLS = 2;
     private static final int MOST_CELLS = 30;
     private static final int MOST_WINDOWS = 8;
     private static final int MOST_PEOPLE = 8;
@@ -1369,7 +1368,7 @@ public final class ThrownRosesReturn {
         }
     }
 
-    /** Who should have whose: best[w][taken] is the most fondness of the windows from w on, when some people are taken. */
+    /** Who should have whose: best[w][taken] is the most FOND of the windows from w on, when some people are taken. */
     private static final class Pairing {
         private final Street draft = new Street();
         private final int[] hits = new int[MOST_WINDOWS];
