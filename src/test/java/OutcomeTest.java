@@ -10,8 +10,11 @@ public final class OutcomeTest {
         promise27();
         promise28();
         promise28Ties();
+        promise28Alike();
+        promise28Back();
         promise28Eight();
         promise29();
+        promise29Codes();
         promise29Refusals();
         promise30();
         promise30Refusals();
@@ -39,6 +42,7 @@ public final class OutcomeTest {
         promise50();
         promise51();
         promise52();
+        promise52Codes();
         promise52Refusals();
         promise53();
         promise53Refusals();
@@ -98,6 +102,12 @@ public final class OutcomeTest {
         CHECK.due("23: none for one with a rose", x.throwsFor(0, 0, 0), 0);
         CHECK.due("23: but for him behind", x.throwsFor(3, 0, 0), 12);
         CHECK.due("23: and further ones", x.throwsFor(2, 0, 1), 1);
+        x.tell(0, 10);
+        x.put(1, 1);
+        CHECK.due("23: the force 9", x.throwsFor(1, 0, 1), 9);
+        CHECK.due("23: down", x.throwsFor(1, 0, 2), 2);
+        x.put(1, 2);
+        CHECK.due("23: the force 8", x.throwsFor(1, 0, 1), 8);
     }
 
     private static void promise24() {
@@ -153,6 +163,18 @@ public final class OutcomeTest {
         CHECK.due("26: stairs", x.whose(0, 4, 1), 4);
         x.tell(0, 9);
         CHECK.due("26: by the wind", x.whose(0, 4, 0), 11);
+        x.tell(0, 5);
+        x.put(1, 3);
+        CHECK.due("26: the last cell that is open", x.whose(1, 4, 0), 11);
+        x.put(1, 7);
+        CHECK.due("26: the last of another", x.whose(1, 4, 0), 9);
+        x.put(1, 8);
+        CHECK.due("26: one further", x.whose(1, 4, 0), 1);
+        x.tell(0, 2);
+        x.put(1, 0);
+        CHECK.due("26: cell 0 alone is open to 1", x.whose(1, 4, 0), 11);
+        x.put(1, 1);
+        CHECK.due("26: beside it", x.whose(1, 4, 0), 9);
         refuses("26: person", x, person -> x.whose(person, 4, 0), -1, 6);
         refuses("26: thorns", x, thorns -> x.whose(0, thorns, 0), -1, 10);
         refuses("26: what", x, what -> x.whose(0, 4, what), -1, 3);
@@ -183,6 +205,8 @@ public final class OutcomeTest {
         refuses("28: window", x, x::pairs, -3, 3);
         x.tell(0, 0);
         CHECK.due("28: none from 1 by this wind", x.pairs(1), Town.NONE);
+        CHECK.due("28: less by this wind", x.pairs(-1), 18);
+        CHECK.due("28: two of three", x.pairs(-2), 2);
         ThrownRosesReturn y = new ThrownRosesReturn();
         CHECK.due("28: nobody", y.pairs(-1), 0);
         CHECK.due("28: nobody", y.pairs(-2), 0);
@@ -212,6 +236,12 @@ public final class OutcomeTest {
         CHECK.due("28: together", y.pairs(-1), 10);
         CHECK.due("28: the first window has him", y.pairs(0), 0);
         CHECK.due("28: the others nobody", y.pairs(1), Town.NONE);
+        y.image();
+        y.tell(0, 10);
+        y.put(1, 11);
+        CHECK.due("28: together", y.pairs(-1), 20);
+        y.back();
+        CHECK.due("28: together as it was", y.pairs(-1), 10);
         ThrownRosesReturn z = new ThrownRosesReturn();
         z.window(3, 1, 0);
         z.window(8, 1, 0);
@@ -220,6 +250,44 @@ public final class OutcomeTest {
         CHECK.due("28: the greatest together", z.pairs(-1), 19);
         CHECK.due("28: not the fondest", z.pairs(0), 1);
         CHECK.due("28: whom it alone can hit", z.pairs(1), 0);
+    }
+
+    private static void promise28Alike() {
+        ThrownRosesReturn x = new ThrownRosesReturn();
+        x.window(5, 3, 0);
+        x.person(1, 0, 1);
+        x.person(1, 0, 2);
+        x.person(1, 0, 3);
+        x.image();
+        x.window(5, 3, 0);
+        x.window(5, 3, 0);
+        CHECK.due("28: together", x.pairs(-1), 30);
+        for (int w = 0; w < 3; w++) {
+            CHECK.due("28: no two the same one", x.pairs(w), w);
+        }
+        x.back();
+        CHECK.due("28: of fewer windows", x.pairs(-1), 10);
+        CHECK.due("28: one", x.pairs(-2), 1);
+    }
+
+    /** What was reckoned for more people and windows must not stay behind. */
+    private static void promise28Back() {
+        ThrownRosesReturn x = new ThrownRosesReturn();
+        x.window(5, 3, 0);
+        x.window(5, 3, 0);
+        x.person(1, 0, 1);
+        x.image();
+        x.person(1, 0, 2);
+        CHECK.due("28: of two people", x.pairs(-1), 20);
+        x.back();
+        CHECK.due("28: of one", x.pairs(-1), 10);
+        x.person(1, 0, 2);
+        x.image();
+        x.window(5, 3, 0);
+        x.person(1, 0, 3);
+        CHECK.due("28: of three", x.pairs(-1), 30);
+        x.back();
+        CHECK.due("28: of two again", x.pairs(-1), 20);
     }
 
     private static void promise28Eight() {
@@ -265,6 +333,30 @@ public final class OutcomeTest {
         }
         CHECK.due("29: twenty", x.winds(3, 20), 1 << 2);
         CHECK.due("29: the wind stays", x.status(3), 5);
+    }
+
+    /** Eight windows, the last in cell 6 on floor 3 of a street of 30: each throw by its code alone. */
+    private static ThrownRosesReturn ofEight() {
+        ThrownRosesReturn x = new ThrownRosesReturn();
+        for (int w = 0; w < 8; w++) {
+            x.window(w == 7 ? 6 : 1, w == 7 ? 3 : 1, 0);
+        }
+        x.paves(30);
+        return x;
+    }
+
+    private static void promise29Codes() {
+        ThrownRosesReturn x = ofEight();
+        for (int force = 0; force < 10; force++) {
+            Town.lay(x, 0, 3, 701 + 10 * force, 6 + force);
+            CHECK.due("29: up by force " + force, x.winds(0, 1), 1 << 5);
+            Town.lay(x, 0, 3, 702 + 10 * force, 6 - force + 5);
+            CHECK.due("29: down by force " + force, x.winds(0, 1), 1 << 10);
+            Town.lay(x, 0, 3, 700 + 10 * force, 1);
+            CHECK.due("29: straight down", x.winds(0, 1), 1);
+        }
+        Town.lay(x, 0, 3, 800, 6);
+        CHECK.refused("29: window 8", x, () -> x.winds(0, 1), Town.STUCK);
     }
 
     private static void promise29Refusals() {
@@ -334,6 +426,9 @@ public final class OutcomeTest {
         CHECK.refused("30: window -1", x, () -> x.kinds(0, 2, 0), Town.STUCK);
         x.set(0, 2, 1L << 32);
         CHECK.refused("30: no window of longs", x, () -> x.kinds(0, 2, 0), Town.STUCK);
+        x.set(0, 2, 0);
+        x.set(0, 0, 3);
+        CHECK.refused("30: the very first", x, () -> x.kinds(0, 2, 0), Town.STUCK);
     }
 
     private static void promise31() {
@@ -451,6 +546,7 @@ public final class OutcomeTest {
         CHECK.due("35: the cell", x.move(1, 0), 0);
         CHECK.due("35: from all", x.move(1, 1), 3);
         CHECK.due("35: he stays", x.personOf(1, 2), 2);
+        CHECK.due("35: a CATCHER", x.move(0, 0), 0);
         refuses("35: person", x, person -> x.move(person, 0), -1, 6);
         refuses("35: what", x, what -> x.move(0, what), -1, 2);
         ThrownRosesReturn y = new ThrownRosesReturn();
@@ -475,9 +571,9 @@ public final class OutcomeTest {
         x.person(1, 0, 0);
         x.thrown(0, 6, 1);
         CHECK.due("35: he has a rose", x.personOf(0, 3), 0);
+        CHECK.due("35: but the other where he stands", x.move(1, 0), 8);
         CHECK.due("35: so he can't be hit", x.move(0, 1), 0);
         CHECK.due("35: anywhere", x.move(0, 0), 0);
-        CHECK.due("35: but the other where he stands", x.move(1, 0), 8);
     }
 
     private static void promise36() {
@@ -543,6 +639,10 @@ public final class OutcomeTest {
         CHECK.due("38: none left but for never", y.due(1), Town.NONE);
         CHECK.due("38: who has it still", y.having(0), 32);
         refuses("38: what", x, x::due, -1, 2);
+        x.thrown(0, 3, 1);
+        x.thrown(0, 0, 0);
+        CHECK.due("38: the last is of the first one", x.due(1), 4);
+        CHECK.due("38: the first is of another", x.due(0), 3);
     }
 
     private static void promise39() {
@@ -607,6 +707,19 @@ public final class OutcomeTest {
         CHECK.due("41: all together", y.bed(0), 8);
         CHECK.due("41: how many", y.bed(1), 25);
         refuses("41: what", x, x::bed, -1, 2);
+        ThrownRosesReturn z = new ThrownRosesReturn();
+        z.window(4, 1, 0);
+        CHECK.due("41: beneath it", z.bed(0), 4);
+        z.tell(0, 0);
+        CHECK.due("41: by the wind", z.bed(0), 0);
+        CHECK.due("41: by the wind", z.bed(1), 3);
+        ThrownRosesReturn v = new ThrownRosesReturn();
+        v.window(0, 1, 0);
+        v.tell(0, 10);
+        CHECK.due("41: by this wind", v.bed(0), 5);
+        v.tell(0, 0);
+        CHECK.due("41: all off the street", v.bed(0), 0);
+        CHECK.due("41: all off the street", v.bed(1), 0);
     }
 
     private static void promise42() {
@@ -625,6 +738,7 @@ public final class OutcomeTest {
         ThrownRosesReturn x = Town.built();
         CHECK.due("43: the least of three", x.windFor(0, 0, 0, 0), 4);
         CHECK.due("43: 0", x.windFor(4, 0, 0, 0), 0);
+        CHECK.due("43: 0 though less would do", x.windFor(4, 0, 1, 1), 0);
         CHECK.due("43: back from off the street", x.windFor(4, 0, 9, 2), 9);
         CHECK.due("43: 10", x.windFor(1, 0, 8, 2), 10);
         CHECK.unrefused("43: none", x, () -> x.windFor(3, 0, 0, 0), Town.NONE);
@@ -778,6 +892,24 @@ public final class OutcomeTest {
         CHECK.due("52: no roses", x.status(7), 0);
         x.row(2, 0, 40);
         CHECK.due("52: forty", x.judge(2, 40), Town.NONE);
+    }
+
+    private static void promise52Codes() {
+        ThrownRosesReturn x = ofEight();
+        Town.lay(x, 0, 1, 792, 0);
+        CHECK.due("52: the last throw of all", x.judge(0, 2), Town.NONE);
+        CHECK.due("53: lands off", x.behind(0, 1, 3), 1);
+        for (int force = 0; force < 8; force++) {
+            x.person(1, 0, 6 + force);
+        }
+        for (int force = 0; force < 8; force++) {
+            Town.lay(x, 0, 1, 701 + 10 * force);
+            CHECK.due("53: who catches by force " + force, x.behind(0, 1, 0), 1 << force);
+        }
+        x.put(0, 14);
+        x.put(1, 15);
+        Town.lay(x, 0, 1, 781, 791);
+        CHECK.due("53: who catches by forces 8 and 9", x.behind(0, 2, 0), 3);
     }
 
     private static void promise52Refusals() {

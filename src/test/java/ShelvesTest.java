@@ -48,8 +48,10 @@ public final class ShelvesTest {
         CHECK.due("2: holds", x.holds(7), 0);
         CHECK.refused("2: no element", x, () -> x.set(7, 0, 1), Town.BAD);
         CHECK.due("2: last element", x.set(0, 39, 5), 1);
+        CHECK.due("2: first element", x.set(0, 0, 5), 1);
         CHECK.due("2: a new row", x.row(0, 0, 40), 1);
         CHECK.due("2: is all 0", x.element(0, 39), 0);
+        CHECK.due("2: is all 0", x.element(0, 0), 0);
         x.set(0, 39, 5);
         x.row(0, 0, 3);
         x.row(0, 0, 40);
@@ -58,6 +60,7 @@ public final class ShelvesTest {
         x.show(6, 0);
         CHECK.due("2: over one of the people", x.row(6, 2, 1), 1);
         CHECK.due("2: holds", x.holds(6), 2);
+        CHECK.due("2: is a row", x.set(6, 0, 3), 1);
         CHECK.refused("2: shelf -1", x, () -> x.row(-1, 0, 1), Town.BAD);
         CHECK.refused("2: shelf 8", x, () -> x.row(8, 0, 1), Town.BAD);
         CHECK.refused("2: sort -1", x, () -> x.row(5, -1, 1), Town.BAD);

@@ -194,6 +194,8 @@ public final class StreetTest {
         fault("day 1 day 2", 6);
         fault("days 1", 0);
         fault("da 1", 0);
+        fault("xay 1", 0);
+        fault("dax 1", 0);
         fault("Day 1", 0);
         fault("dAy 1", 0);
         fault("day 1;3", 6);
@@ -273,6 +275,11 @@ public final class StreetTest {
         CHECK.due("16: catches", x.catches(5), 0);
         CHECK.due("16: people of the same tape", Town.read(x, "cells 20;person 1 2 19;at 6 18"), 3);
         CHECK.due("16: at", x.personOf(6, 2), 18);
+        CHECK.due("16: another", Town.read(x, "person 1 2 17"), 1);
+        int[] one = {1, 2, 17};
+        for (int what = 0; what < 3; what++) {
+            CHECK.due("16: personOf", x.personOf(7, what), one[what]);
+        }
     }
 
     private static void promise17() {

@@ -291,9 +291,13 @@ public final class TruthTest {
         x.image();
         x.person(0, 0, 0);
         x.show(0, 0);
+        x.window(0, 1, 0);
+        CHECK.due("59: a rose", x.thrown(0, 0, 0), 0);
         x.back();
         CHECK.due("59: nobody", x.status(0), 0);
         CHECK.due("59: holds", x.holds(0), Town.NONE);
+        x.person(0, 0, 0);
+        hasRose(x, 0, Town.NONE, Town.NONE);
         x.tell(1, 9);
         x.window(0, 1, 0);
         CHECK.due("59: back again", x.back(), 1);
