@@ -90,15 +90,8 @@ final class MeasurePromises {
         t.promise(40, "STUCK: no WINDOWS.", () -> {
             t.refused("which", ThrownRosesReturn::new, x -> x.best(0), Town.STUCK);
             t.refused("by how many", ThrownRosesReturn::new, x -> x.best(1), Town.STUCK);
-            t.refused("which, though there are people", MeasurePromises::peopleAlone, x -> x.best(0), Town.STUCK);
+            t.refused("which, though there are people", Stands::noWindows, x -> x.best(0), Town.STUCK);
         });
-    }
-
-    private static ThrownRosesReturn peopleAlone() {
-        ThrownRosesReturn x = new ThrownRosesReturn();
-        x.person(0, 0, 0);
-        x.row(0, 3, 1);
-        return x;
     }
 
     private static void bestIs(Sentences t, ThrownRosesReturn x, int window, int people) {
@@ -128,6 +121,11 @@ final class MeasurePromises {
                 y.window(5, 1, 0);
             }
             bedIs(t, y, 5, 112);
+            ThrownRosesReturn z = new ThrownRosesReturn();
+            z.window(11, 1, 0);
+            bedIs(t, z, 11, 16);
+            z.tell(0, 10);
+            bedIs(t, z, 0, 0);
         });
         t.promise(41, "BAD.", () -> {
             t.bad("what", Stands::busy, ThrownRosesReturn::bed, -1, 2);
@@ -176,6 +174,14 @@ final class MeasurePromises {
             x.tell(0, 5);
             x.thrown(0, 0, 0);
             t.taken("with a rose", x, () -> x.windFor(1, 0, 0, 0), Town.NONE);
+            ThrownRosesReturn y = new ThrownRosesReturn();
+            y.window(8, 3, 0);
+            y.person(4, 0, 2);
+            t.taken("0 of several", y, () -> y.windFor(0, 0, 0, 0), 0);
+            y.put(0, 11);
+            y.window(3, 3, 0);
+            t.taken("10 and no further", y, () -> y.windFor(0, 1, 0, 0), 10);
+            t.taken("1 below it", y, () -> y.windFor(0, 1, 1, 1), 9);
         });
         t.promise(43, "BAD.", () -> {
             t.bad("person", Stands::busy, (x, person) -> x.windFor(person, 0, 0, 0), -1, 6);
@@ -255,6 +261,9 @@ final class MeasurePromises {
 
     private static void fondest(Sentences t) {
         t.promise(47, "The one of greatest FOND of those HIT from a WINDOW, of several the first; NONE.", () -> {
+            ThrownRosesReturn y = Stands.full();
+            t.taken("the first", y, () -> y.fondest(0), 0);
+            t.taken("the last", y, () -> y.fondest(7), 7);
             ThrownRosesReturn x = new ThrownRosesReturn();
             x.window(5, 1, 0);
             t.taken("nobody there", x, () -> x.fondest(0), Town.NONE);
@@ -309,6 +318,10 @@ final class MeasurePromises {
             z.window(0, 1, 9);
             z.person(1, 0, 0);
             t.taken("of FOND 1", z, () -> z.admirer(0), 0);
+            z.person(4, 0, 6);
+            t.taken("a RAKE just near", z, () -> z.admirer(1), 0);
+            z.put(1, 7);
+            t.taken("a RAKE just too far", z, () -> z.admirer(1), Town.NONE);
         });
         t.promise(48, "BAD.", () -> t.bad("person", Stands::busy, ThrownRosesReturn::admirer, -1, 6));
         t.promise(48, "(NONE isn't refused.)", () -> {
@@ -388,16 +401,9 @@ final class MeasurePromises {
         t.promise(51, "BAD.", () -> t.bad("kind", Stands::busy, ThrownRosesReturn::ofKind, -1, 6));
     }
 
-    /** Town with a row of longs in shelf 0. */
-    private static ThrownRosesReturn told(long... elements) {
-        ThrownRosesReturn x = Town.built();
-        Town.lay(x, 0, 3, elements);
-        return x;
-    }
-
     private static void judge(Sentences t) {
         t.promise(52, "A told LOG by the first n elements (0 to 40) of the ROW in SHELF s: WRONG; NONE.", () -> {
-            ThrownRosesReturn x = told(0, 292, 300);
+            ThrownRosesReturn x = Stands.withRow(0, 292, 300);
             t.taken("none", x, () -> x.judge(0, 0), Town.NONE);
             t.taken("two, and no further", x, () -> x.judge(0, 2), Town.NONE);
             t.taken("three", x, () -> x.judge(0, 3), 2);
@@ -408,7 +414,7 @@ final class MeasurePromises {
             t.taken("thirty-nine", x, () -> x.judge(7, 39), Town.NONE);
             x.row(6, 3, 0);
             t.taken("none of none", x, () -> x.judge(6, 0), Town.NONE);
-            ThrownRosesReturn y = peopleAlone();
+            ThrownRosesReturn y = Stands.noWindows();
             t.taken("no windows", y, () -> y.judge(0, 1), 0);
             t.taken("none, though no windows", y, () -> y.judge(0, 0), Town.NONE);
         });
@@ -440,7 +446,7 @@ final class MeasurePromises {
 
     private static void behind(Sentences t) {
         t.promise(53, "BEHIND it: who has ROSES (what 0), CAUGHT (1), not CAUGHT (2), off (3).", () -> {
-            ThrownRosesReturn x = told(0, 0, 0, 71, 300);
+            ThrownRosesReturn x = Stands.withRow(0, 0, 0, 71, 300);
             int[][] due = {{0, 0, 0, 0}, {1, 1, 0, 0}, {9, 2, 0, 0}, {9, 2, 1, 0}, {9, 2, 1, 1}};
             for (int n = 0; n <= 4; n++) {
                 for (int what = 0; what < 4; what++) {
@@ -455,7 +461,7 @@ final class MeasurePromises {
                 x.set(7, i, 291);
             }
             t.taken("forty, off", x, () -> x.behind(7, 40, 3), 40);
-            ThrownRosesReturn y = peopleAlone();
+            ThrownRosesReturn y = Stands.noWindows();
             t.taken("none, though no windows", y, () -> y.behind(0, 0, 0), 0);
         });
         t.promise(53, "BAD SHELF, n, what;", () -> {
@@ -480,19 +486,19 @@ final class MeasurePromises {
             t.refused("for forty", Stands::busy, x -> x.behind(3, 40, 3), Town.NOTHING);
         });
         t.promise(53, "BAD: fewer elements;", () -> {
-            t.refused("three for four", () -> told(0, 0, 0), x -> x.behind(0, 4, 0), Town.BAD);
+            t.refused("three for four", () -> Stands.withRow(0, 0, 0), x -> x.behind(0, 4, 0), Town.BAD);
             t.refused("none for one", Stands::busy, x -> x.behind(5, 1, 0), Town.BAD);
             t.refused("ahead of STUCK", Stands::busy, x -> x.behind(1, 4, 0), Town.BAD);
-            ThrownRosesReturn y = told(0, 0, 0);
+            ThrownRosesReturn y = Stands.withRow(0, 0, 0);
             t.taken("three for three", y, () -> y.behind(0, 3, 1), 2);
         });
         t.promise(53, "STUCK: it is WRONG.", () -> {
             for (long bad : new long[] {-1, 3, 9, 293, 300, 1L << 32, Long.MAX_VALUE, Long.MIN_VALUE}) {
-                t.refused("by " + bad, () -> told(bad), x -> x.behind(0, 1, 0), Town.STUCK);
-                t.refused("behind another, by " + bad, () -> told(0, bad), x -> x.behind(0, 2, 3), Town.STUCK);
+                t.refused("by " + bad, () -> Stands.withRow(bad), x -> x.behind(0, 1, 0), Town.STUCK);
+                t.refused("behind another, by " + bad, () -> Stands.withRow(0, bad), x -> x.behind(0, 2, 3), Town.STUCK);
             }
-            t.refused("no windows", MeasurePromises::peopleAlone, x -> x.behind(0, 1, 0), Town.STUCK);
-            ThrownRosesReturn y = told(292, 300);
+            t.refused("no windows", Stands::noWindows, x -> x.behind(0, 1, 0), Town.STUCK);
+            ThrownRosesReturn y = Stands.withRow(292, 300);
             t.taken("but not so far", y, () -> y.behind(0, 1, 3), 1);
         });
     }

@@ -144,16 +144,9 @@ final class OutcomePromises {
         });
     }
 
-    /** Town with a row of longs in shelf 0. */
-    private static ThrownRosesReturn told(long... elements) {
-        ThrownRosesReturn x = Town.built();
-        Town.lay(x, 0, 3, elements);
-        return x;
-    }
-
     private static void winds(Sentences t) {
         t.promise(29, "WINDS by the first n twos (0 to 20) of the ROW in SHELF s.", () -> {
-            ThrownRosesReturn x = told(0, 5, 0, 6, 3, 3);
+            ThrownRosesReturn x = Stands.withRow(0, 5, 0, 6, 3, 3);
             t.taken("none", x, () -> x.winds(0, 0), 2047);
             t.taken("one", x, () -> x.winds(0, 1), 1 << 5);
             t.taken("two, and no further", x, () -> x.winds(0, 2), 0);
@@ -189,35 +182,28 @@ final class OutcomePromises {
             t.refused("for twenty", Stands::busy, x -> x.winds(3, 20), Town.NOTHING);
         });
         t.promise(29, "BAD: fewer elements;", () -> {
-            t.refused("three for two twos", () -> told(0, 5, 0), x -> x.winds(0, 2), Town.BAD);
+            t.refused("three for two twos", () -> Stands.withRow(0, 5, 0), x -> x.winds(0, 2), Town.BAD);
             t.refused("none for one", Stands::busy, x -> x.winds(5, 1), Town.BAD);
-            t.refused("ahead of STUCK", () -> told(3, 5, 0), x -> x.winds(0, 2), Town.BAD);
-            ThrownRosesReturn y = told(0, 5, 0);
+            t.refused("ahead of STUCK", () -> Stands.withRow(3, 5, 0), x -> x.winds(0, 2), Town.BAD);
+            ThrownRosesReturn y = Stands.withRow(0, 5, 0);
             t.taken("three for one", y, () -> y.winds(0, 1), 1 << 5);
         });
         t.promise(29, "STUCK: no THROW.", () -> {
             for (long bad : new long[] {-1, 3, 9, 93, 293, 300, 1L << 32, Long.MAX_VALUE, Long.MIN_VALUE}) {
-                t.refused("of " + bad, () -> told(bad, 5), x -> x.winds(0, 1), Town.STUCK);
-                t.refused("behind another, " + bad, () -> told(0, 5, bad, 5), x -> x.winds(0, 2), Town.STUCK);
+                t.refused("of " + bad, () -> Stands.withRow(bad, 5), x -> x.winds(0, 1), Town.STUCK);
+                t.refused("behind another, " + bad, () -> Stands.withRow(0, 5, bad, 5), x -> x.winds(0, 2), Town.STUCK);
             }
-            ThrownRosesReturn y = told(292, 5, 300, 5);
+            ThrownRosesReturn y = Stands.withRow(292, 5, 300, 5);
             t.taken("the last there is", y, () -> y.winds(0, 1), 0);
-            ThrownRosesReturn z = told(0, 300);
+            ThrownRosesReturn z = Stands.withRow(0, 300);
             t.taken("where it landed may be any", z, () -> z.winds(0, 1), 0);
-            t.refused("no windows", OutcomePromises::noWindows, x -> x.winds(0, 1), Town.STUCK);
+            t.refused("no windows", Stands::noWindows, x -> x.winds(0, 1), Town.STUCK);
         });
-    }
-
-    private static ThrownRosesReturn noWindows() {
-        ThrownRosesReturn x = new ThrownRosesReturn();
-        x.person(0, 4, 5);
-        x.row(0, 3, 2);
-        return x;
     }
 
     private static void kinds(Sentences t) {
         t.promise(30, "KINDS of one by the first n twos (0 to 20) of the ROW in SHELF s.", () -> {
-            ThrownRosesReturn x = told(0, 4, 1, 4, 2, 5, 3, 3);
+            ThrownRosesReturn x = Stands.withRow(0, 4, 1, 4, 2, 5, 3, 3);
             t.taken("none", x, () -> x.kinds(0, 0, 0), 63);
             t.taken("one", x, () -> x.kinds(0, 1, 0), 1);
             t.taken("two", x, () -> x.kinds(0, 2, 0), 1);
@@ -230,7 +216,7 @@ final class OutcomePromises {
             x.set(7, 39, 11);
             t.taken("the twentieth", x, () -> x.kinds(7, 20, 5), 0);
             t.taken("nineteen", x, () -> x.kinds(7, 19, 5), 1 << 5);
-            ThrownRosesReturn y = noWindows();
+            ThrownRosesReturn y = Stands.noWindows();
             t.taken("none, though no windows", y, () -> y.kinds(0, 0, 0), 63);
         });
         t.promise(30, "BAD SHELF, n, person;", () -> {
@@ -255,20 +241,20 @@ final class OutcomePromises {
             t.refused("for twenty", Stands::busy, x -> x.kinds(3, 20, 5), Town.NOTHING);
         });
         t.promise(30, "BAD: fewer elements;", () -> {
-            t.refused("three for two twos", () -> told(0, 4, 1), x -> x.kinds(0, 2, 0), Town.BAD);
+            t.refused("three for two twos", () -> Stands.withRow(0, 4, 1), x -> x.kinds(0, 2, 0), Town.BAD);
             t.refused("none for one", Stands::busy, x -> x.kinds(5, 1, 0), Town.BAD);
-            t.refused("ahead of STUCK", () -> told(3, 4, 1), x -> x.kinds(0, 2, 0), Town.BAD);
-            ThrownRosesReturn y = told(0, 4, 1);
+            t.refused("ahead of STUCK", () -> Stands.withRow(3, 4, 1), x -> x.kinds(0, 2, 0), Town.BAD);
+            ThrownRosesReturn y = Stands.withRow(0, 4, 1);
             t.taken("three for one", y, () -> y.kinds(0, 1, 0), 1);
         });
         t.promise(30, "STUCK: no WINDOW.", () -> {
             for (long bad : new long[] {-1, 3, 1L << 32, Long.MAX_VALUE, Long.MIN_VALUE}) {
-                t.refused("of " + bad, () -> told(bad, 4), x -> x.kinds(0, 1, 0), Town.STUCK);
-                t.refused("behind another, " + bad, () -> told(0, 7, bad, 4), x -> x.kinds(0, 2, 0), Town.STUCK);
+                t.refused("of " + bad, () -> Stands.withRow(bad, 4), x -> x.kinds(0, 1, 0), Town.STUCK);
+                t.refused("behind another, " + bad, () -> Stands.withRow(0, 7, bad, 4), x -> x.kinds(0, 2, 0), Town.STUCK);
             }
-            ThrownRosesReturn y = told(2, 4, 3, 4);
+            ThrownRosesReturn y = Stands.withRow(2, 4, 3, 4);
             t.taken("the last there is", y, () -> y.kinds(0, 1, 0), 1);
-            t.refused("no windows", OutcomePromises::noWindows, x -> x.kinds(0, 1, 0), Town.STUCK);
+            t.refused("no windows", Stands::noWindows, x -> x.kinds(0, 1, 0), Town.STUCK);
         });
     }
 
@@ -450,6 +436,15 @@ final class OutcomePromises {
             y.thrown(0, 0, 0);
             t.taken("999 as the first", y, () -> y.due(0), 999);
             t.taken("999 as the last", y, () -> y.due(1), 999);
+            ThrownRosesReturn z = Stands.full();
+            z.thrown(7, 0, 0);
+            z.thrown(1, 0, 0);
+            t.taken("the first of another ahead", z, () -> z.due(0), 5);
+            t.taken("the last of another behind", z, () -> z.due(1), 17);
+            z.thrown(3, 0, 0);
+            z.thrown(2, 0, 0);
+            t.taken("the first in between", z, () -> z.due(0), 1);
+            t.taken("the last still", z, () -> z.due(1), 17);
         });
         t.promise(38, "BAD.", () -> t.bad("what", Stands::busy, ThrownRosesReturn::due, -1, 2));
         t.promise(38, "(NONE isn't refused.)", () -> {

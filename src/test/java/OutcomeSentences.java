@@ -24,14 +24,6 @@ final class OutcomeSentences {
         behind(t);
     }
 
-    /** 30 cells, one window, and nobody. */
-    private static ThrownRosesReturn under(int cell, int floor) {
-        ThrownRosesReturn x = new ThrownRosesReturn();
-        x.paves(30);
-        x.window(cell, floor, 0);
-        return x;
-    }
-
     private static void nothingIsChanged(Sentences t) {
         t.terms(23, "==== 3. WHAT COMES OF IT (nothing is changed)", () -> {
             for (int what = 0; what <= 3; what++) {
@@ -72,7 +64,7 @@ final class OutcomeSentences {
 
     private static void throwsFor(Sentences t) {
         t.terms(23, "THROWS by which one CATCHES from a WINDOW, as all stand now: how many (of 30)", () -> {
-            ThrownRosesReturn x = under(15, 1);
+            ThrownRosesReturn x = Stands.under(15, 1);
             x.person(4, 0, 15);
             t.taken("all of 30", x, () -> x.throwsFor(0, 0, 0), 30);
             x.put(0, 19);
@@ -89,7 +81,7 @@ final class OutcomeSentences {
             t.due("as WIND is", x.throwsFor(1, 0, 0), 16);
         });
         t.terms(23, "the least FORCE; the WAY of it, of several the first; NONE. HIT", () -> {
-            ThrownRosesReturn x = under(15, 1);
+            ThrownRosesReturn x = Stands.under(15, 1);
             x.person(4, 0, 15);
             forceAndWay(t, x, 0, 0);
             x.put(0, 19);
@@ -113,7 +105,7 @@ final class OutcomeSentences {
 
     private static void hitAndOpen(Sentences t) {
         t.terms(24, ": PEOPLE (bits) who can be hit so from a WINDOW.", () -> {
-            ThrownRosesReturn x = under(5, 3);
+            ThrownRosesReturn x = Stands.under(5, 3);
             t.taken("nobody there", x, () -> x.hit(0), 0);
             for (int p = 0; p < 8; p++) {
                 x.person(1, 0, 16);
@@ -131,10 +123,18 @@ final class OutcomeSentences {
             t.due("but for one who has a rose", x.hit(0), 254);
             x.put(1, 2);
             x.put(0, 1);
-            t.due("the second stands behind nobody", x.hit(0), 250);
+            t.due("one stands behind another", x.hit(0), 250);
+            int[] last = {4, 3, 5, 3, 6, 4};
+            for (int kind = 0; kind < 6; kind++) {
+                ThrownRosesReturn y = Stands.under(0, 1);
+                y.person(kind, 0, last[kind]);
+                t.due("kind " + kind + ", just near", y.hit(0), 1);
+                y.put(0, last[kind] + 1);
+                t.due("kind " + kind + ", just too far", y.hit(0), 0);
+            }
         });
         t.terms(25, "OPEN: CELLS (bits) at which a ROSE of a WINDOW can LAND as WIND is", () -> {
-            ThrownRosesReturn x = under(29, 3);
+            ThrownRosesReturn x = Stands.under(29, 3);
             x.window(0, 3, 0);
             t.due("to the last cell", x.open(0, 0), 0b1111111111 << 20);
             t.due("from the first cell", x.open(1, 0), 0b1111111111);
@@ -146,7 +146,7 @@ final class OutcomeSentences {
             t.due("the first cell alone", x.open(2, 0), 1);
         });
         t.terms(25, "ASTRAY: as WIND may be any (0 to 10).", () -> {
-            ThrownRosesReturn x = under(15, 1);
+            ThrownRosesReturn x = Stands.under(15, 1);
             t.due("8 cells both ways", x.open(0, 1), 0b11111111111111111 << 7);
             x.tell(0, 0);
             t.due("whatever WIND is", x.open(0, 1), 0b11111111111111111 << 7);
@@ -159,7 +159,7 @@ final class OutcomeSentences {
 
     private static void whose(Sentences t) {
         t.terms(26, "WHOSE: one who CAUGHT a ROSE with told THORNS where he is AT: WINDOWS (bits) of such THORNS", () -> {
-            ThrownRosesReturn x = under(0, 1);
+            ThrownRosesReturn x = Stands.under(0, 1);
             x.window(0, 1, 9);
             x.window(0, 1, 1);
             x.person(1, 0, 0);
@@ -174,7 +174,7 @@ final class OutcomeSentences {
         t.terms(26, "from which, by some FORCE and WAY, a ROSE LANDS so near that he REACHES it, WIND as it is.", () -> {
             int[] last = {4, 3, 5, 3, 6, 4};
             for (int kind = 0; kind < 6; kind++) {
-                ThrownRosesReturn x = under(0, 1);
+                ThrownRosesReturn x = Stands.under(0, 1);
                 x.person(kind, 0, last[kind]);
                 t.due("kind " + kind + ", just", x.whose(0, 0, 0), 1);
                 x.put(0, last[kind] + 1);
@@ -248,7 +248,7 @@ final class OutcomeSentences {
             t.due("each another", x.pairs(1), 1);
         });
         t.terms(28, "whom it can hit, as all stand now (as if nobody had a ROSE)", () -> {
-            ThrownRosesReturn x = under(5, 1);
+            ThrownRosesReturn x = Stands.under(5, 1);
             x.person(1, 5, 8);
             t.due("at the last cell that is open", x.pairs(0), 0);
             t.due("who has a rose", x.thrown(0, 9, 1), 0);
@@ -280,6 +280,16 @@ final class OutcomeSentences {
                 y.person(1, i, i);
             }
             t.due("of eight", y.pairs(-1), 80);
+            ThrownRosesReturn z = new ThrownRosesReturn();
+            z.window(5, 3, 0);
+            z.person(1, 9, 4);
+            z.person(1, 1, 5);
+            z.person(1, 0, 6);
+            t.due("the fondest for one window", z.pairs(0), 2);
+            z.window(5, 3, 0);
+            t.due("10 and 9", z.pairs(-1), 19);
+            t.due("the 9 first", z.pairs(0), 1);
+            t.due("then the 10", z.pairs(1), 2);
         });
     }
 
@@ -375,13 +385,13 @@ final class OutcomeSentences {
         t.terms(31, "CHANCE: WIND being 0 to 10, each alike: of 1,000,000 (cut), how likely one CATCHES a THROW.", () -> {
             int[] due = {272727, 90909, 454545, 90909, 636363, 272727};
             for (int kind = 0; kind < 6; kind++) {
-                ThrownRosesReturn x = under(15, 3);
+                ThrownRosesReturn x = Stands.under(15, 3);
                 x.person(kind, 0, 15);
                 t.taken("kind " + kind, x, () -> x.chance(0, 0, 0, 0), due[kind]);
                 x.tell(0, 0);
                 t.due("kind " + kind + ", whatever WIND is", x.chance(0, 0, 0, 0), due[kind]);
             }
-            ThrownRosesReturn x = under(15, 3);
+            ThrownRosesReturn x = Stands.under(15, 3);
             x.person(1, 0, 10);
             t.due("by wind 0", x.chance(0, 0, 0, 0), 90909);
             x.put(0, 20);
@@ -391,7 +401,7 @@ final class OutcomeSentences {
             x.put(0, 15);
             x.thrown(0, 0, 0);
             t.taken("with a rose", x, () -> x.chance(0, 0, 0, 0), 0);
-            ThrownRosesReturn y = under(0, 3);
+            ThrownRosesReturn y = Stands.under(0, 3);
             y.person(4, 0, 0);
             t.due("but for off the street", y.chance(0, 0, 0, 0), 363636);
         });
@@ -400,7 +410,7 @@ final class OutcomeSentences {
     private static void safest(Sentences t) {
         t.terms(32, "SAFEST: the THROW of a WINDOW for one by which that is greatest (as 10 times FORCE and WAY), "
                 + "of several the least", () -> {
-            ThrownRosesReturn x = under(5, 3);
+            ThrownRosesReturn x = Stands.under(5, 3);
             x.person(4, 0, 5);
             t.taken("the very first", x, () -> x.safest(0, 0), 0);
             x.put(0, 9);
@@ -411,12 +421,12 @@ final class OutcomeSentences {
             t.due("no further than the street", x.safest(0, 0), 0);
             x.put(0, 22);
             t.due("as far as can be", x.safest(0, 0), 91);
-            ThrownRosesReturn y = under(20, 3);
+            ThrownRosesReturn y = Stands.under(20, 3);
             y.person(4, 0, 16);
             t.due("2 down", y.safest(0, 0), 22);
         });
         t.terms(32, "NONE: by none at all.", () -> {
-            ThrownRosesReturn x = under(5, 3);
+            ThrownRosesReturn x = Stands.under(5, 3);
             x.person(1, 0, 19);
             t.due("by one wind", x.safest(0, 0), 91);
             x.put(0, 20);
@@ -513,6 +523,14 @@ final class OutcomeSentences {
             moveIs(t, x, 0, 0);
             x.window(11, 1, 0);
             moveIs(t, x, 8, 1);
+            for (int kind = 0; kind < 6; kind++) {
+                ThrownRosesReturn y = new ThrownRosesReturn();
+                y.window(3, 1, 0);
+                y.person(kind, 0, 7);
+                moveIs(t, y, 0, 1);
+                y.tell(0, 10);
+                moveIs(t, y, new int[] {4, 5, 3, 5, 2, 4}[kind], 1);
+            }
             x.window(9, 1, 0);
             moveIs(t, x, 8, 2);
             x.person(1, 0, 8);
@@ -573,6 +591,14 @@ final class OutcomeSentences {
             t.taken("no windows, so no throws", y, () -> y.judge(0, 1), 0);
         });
         t.terms(53, ", one behind the other, who CATCHES keeps it", () -> {
+            ThrownRosesReturn y = Stands.full();
+            for (int w = 0; w < 8; w++) {
+                Town.lay(y, 0, 3, 100 * w);
+                t.due("of window " + w, y.behind(0, 1, 0), 1 << (w == 5 ? 4 : w));
+            }
+            Town.lay(y, 0, 3, 771, 742, 792, 722);
+            t.due("of window 7, 4 down, off, and 2 down", y.behind(0, 4, 0), 0b00011000);
+
             ThrownRosesReturn x = crowd();
             x.row(0, 3, 40);
             for (int n = 0; n <= 8; n++) {

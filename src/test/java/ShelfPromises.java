@@ -54,14 +54,18 @@ final class ShelfPromises {
             for (int i = 0; i < 3; i++) {
                 t.due("is new", x.element(0, i), 0);
             }
-            t.taken("over one of the people", x, () -> x.row(2, 4, 0), 1);
+            t.taken("over one of the people", x, () -> x.row(2, 4, 2), 1);
             t.due("is a row", x.holds(2), 4);
+            t.due("can be set", x.set(2, 1, 1), 1);
+            t.due("says nothing", x.says(2, 0), Town.OTHER);
             t.taken("over nothing", x, () -> x.row(7, 0, 40), 1);
             t.due("is a row", x.holds(7), 0);
+            x.set(7, 0, 5);
             x.set(7, 39, 5);
             x.row(7, 0, 1);
+            t.due("the first is new", x.element(7, 0), 0);
             x.row(7, 0, 40);
-            t.due("new behind a shorter one", x.element(7, 39), 0);
+            t.due("the last is new behind a shorter one", x.element(7, 39), 0);
         });
         t.promise(2, "BAD.", () -> {
             t.bad("shelf", Stands::busy, (x, s) -> x.row(s, 0, 1), -1, 8);

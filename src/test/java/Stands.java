@@ -51,6 +51,29 @@ final class Stands {
         return x;
     }
 
+    /** 30 cells, one window, and nobody. */
+    static ThrownRosesReturn under(int cell, int floor) {
+        ThrownRosesReturn x = new ThrownRosesReturn();
+        x.paves(30);
+        x.window(cell, floor, 0);
+        return x;
+    }
+
+    /** Town with a row of longs in shelf 0. */
+    static ThrownRosesReturn withRow(long... elements) {
+        ThrownRosesReturn x = Town.built();
+        Town.lay(x, 0, 3, elements);
+        return x;
+    }
+
+    /** One of the people and a row of two longs, but nothing to throw from. */
+    static ThrownRosesReturn noWindows() {
+        ThrownRosesReturn x = new ThrownRosesReturn();
+        x.person(0, 4, 5);
+        x.row(0, 3, 2);
+        return x;
+    }
+
     /** All that can be told, but for the refusals; the tape, the shelves and the image are spent over it. */
     static String told(ThrownRosesReturn x) {
         StringBuilder told = new StringBuilder();

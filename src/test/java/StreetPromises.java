@@ -174,6 +174,15 @@ final class StreetPromises {
                 t.due("status(" + what + ")", x.status(what), due[what]);
             }
             t.due("at", x.personOf(0, 2), 6);
+            readsAs(t, "cells 14", y -> y.paves(14));
+            readsAs(t, "window 3 2 4", y -> y.window(3, 2, 4));
+            readsAs(t, "person 1 2 3", y -> y.person(1, 2, 3));
+            readsAs(t, "person 4 8 6", y -> y.person(4, 8, 6));
+            readsAs(t, "at 4 2", y -> y.put(4, 2));
+            readsAs(t, "at 0 3", y -> y.put(0, 3));
+            readsAs(t, "wind 7", y -> y.tell(0, 7));
+            readsAs(t, "day 8", y -> y.tell(1, 8));
+            readsAs(t, "lent 9", y -> y.tell(2, 9));
         });
         t.promise(16, "-20 less the FAULT (that is refused, too: BAD).", () -> {
             t.refusedText("at the first byte", ThrownRosesReturn::new, "x", 0);
@@ -183,6 +192,18 @@ final class StreetPromises {
             t.refusedText("at the end", ThrownRosesReturn::new, " ".repeat(250), 250);
             t.refusedText("no room is BAD, too", Stands::full, "window 0 1 0", 0);
         });
+    }
+
+    /** One statement does what a call does, and nothing else. */
+    private static void readsAs(Sentences t, String statement, java.util.function.Consumer<ThrownRosesReturn> call) {
+        ThrownRosesReturn x = Stands.busy();
+        x.wipe();
+        Town.feed(x, statement);
+        t.taken("'" + statement + "'", x, x::street, 1);
+        ThrownRosesReturn twin = Stands.busy();
+        twin.wipe();
+        call.accept(twin);
+        t.same("'" + statement + "' as by a call", x, twin);
     }
 
     private static void streetEnds(Sentences t) {

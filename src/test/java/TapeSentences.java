@@ -1,5 +1,9 @@
 /** The words on the text that a street is read from: promises 14 to 16. */
 final class TapeSentences {
+    private static final String[] STATEMENTS = {
+        "cells 14", "window 3 2 4", "person 1 2 3", "at 4 2", "wind 7", "day 8", "lent 9",
+    };
+
     private TapeSentences() {
     }
 
@@ -76,6 +80,14 @@ final class TapeSentences {
             fault(t, "dayA 1", 3);
             fault(t, "Day 1", 0);
             fault(t, "DAY 1", 0);
+            for (String statement : STATEMENTS) {
+                int end = statement.indexOf(' ');
+                for (int i = 0; i < end; i++) {
+                    fault(t, statement.substring(0, i) + "z" + statement.substring(i + 1), 0, Town::built);
+                    fault(t, statement.substring(0, i) + statement.substring(i + 1), 0, Town::built);
+                }
+                fault(t, statement.substring(0, end) + "z" + statement.substring(end), 0, Town::built);
+            }
         });
         t.terms(16, "NUMBERS (digits)", () -> {
             day(t, "day 0", 0);

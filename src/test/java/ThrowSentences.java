@@ -15,24 +15,16 @@ final class ThrowSentences {
         comes(t);
     }
 
-    /** 30 cells, one window, and nobody. */
-    private static ThrownRosesReturn under(int cell, int floor) {
-        ThrownRosesReturn x = new ThrownRosesReturn();
-        x.paves(30);
-        x.window(cell, floor, 0);
-        return x;
-    }
-
     private static void ways(Sentences t) {
         t.terms(19, "a FORCE (0 to 9)", () -> {
-            ThrownRosesReturn x = under(15, 3);
+            ThrownRosesReturn x = Stands.under(15, 3);
             t.taken("0", x, () -> x.lands(0, 0, 1), 15);
             t.taken("9", x, () -> x.lands(0, 9, 1), 24);
             t.refused("-1", Stands::busy, y -> y.lands(0, -1, 1), Town.BAD);
             t.refused("10", Stands::busy, y -> y.lands(0, 10, 1), Town.BAD);
         });
         t.terms(19, "a WAY (0 straight down, 1 up the numbers, 2 down the numbers)", () -> {
-            ThrownRosesReturn x = under(15, 3);
+            ThrownRosesReturn x = Stands.under(15, 3);
             t.taken("straight down", x, () -> x.lands(0, 4, 0), 15);
             t.taken("up", x, () -> x.lands(0, 4, 1), 19);
             t.taken("down", x, () -> x.lands(0, 4, 2), 11);
@@ -59,8 +51,8 @@ final class ThrowSentences {
         };
         t.terms(19, "FORCE times FLOOR, by 3 (cut), CELLS that WAY from the WINDOW's CELL", () -> {
             for (int floor = 1; floor <= 5; floor++) {
-                ThrownRosesReturn up = under(14, floor);
-                ThrownRosesReturn down = under(15, floor);
+                ThrownRosesReturn up = Stands.under(14, floor);
+                ThrownRosesReturn down = Stands.under(15, floor);
                 for (int force = 0; force < 10; force++) {
                     int cells = far[floor - 1][force];
                     t.due("floor " + floor + ", force " + force + " up", up.lands(0, force, 1), 14 + cells);
@@ -69,12 +61,12 @@ final class ThrowSentences {
             }
         });
         t.terms(19, "(WAY 0: none)", () -> {
-            ThrownRosesReturn x = under(29, 5);
+            ThrownRosesReturn x = Stands.under(29, 5);
             t.due("force 0", x.lands(0, 0, 0), 29);
             t.due("force 9", x.lands(0, 9, 0), 29);
         });
         t.terms(19, "then WIND less 5 more (below 0: down the numbers)", () -> {
-            ThrownRosesReturn x = under(15, 3);
+            ThrownRosesReturn x = Stands.under(15, 3);
             for (int wind = 0; wind <= 10; wind++) {
                 x.tell(0, wind);
                 t.due("straight down by " + wind, x.lands(0, 9, 0), 10 + wind);
@@ -86,7 +78,7 @@ final class ThrowSentences {
 
     private static void landing(Sentences t) {
         t.terms(19, "there it LANDS", () -> {
-            ThrownRosesReturn x = under(0, 5);
+            ThrownRosesReturn x = Stands.under(0, 5);
             x.window(29, 5, 0);
             t.taken("the first cell", x, () -> x.lands(0, 0, 2), 0);
             t.taken("the last cell", x, () -> x.lands(1, 0, 1), 29);
@@ -96,7 +88,7 @@ final class ThrowSentences {
             t.taken("back from off the first", x, () -> x.lands(0, 3, 2), 0);
         });
         t.terms(19, "NONE: off the street.", () -> {
-            ThrownRosesReturn x = under(0, 3);
+            ThrownRosesReturn x = Stands.under(0, 3);
             x.window(29, 3, 0);
             t.taken("1 below the first", x, () -> x.lands(0, 1, 2), Town.NONE);
             t.taken("1 behind the last", x, () -> x.lands(1, 1, 1), Town.NONE);
@@ -116,7 +108,7 @@ final class ThrowSentences {
 
     private static void nearest(Sentences t) {
         t.terms(20, "It is CAUGHT by the nearest of PEOPLE", () -> {
-            ThrownRosesReturn x = under(15, 3);
+            ThrownRosesReturn x = Stands.under(15, 3);
             x.person(4, 0, 12);
             t.due("one 3 off", x.caught(0, 0, 0), 0);
             x.person(4, 0, 17);
@@ -127,7 +119,7 @@ final class ThrowSentences {
             t.due("one beneath", x.caught(0, 0, 0), 3);
         });
         t.terms(20, "who REACH so far, of several the first", () -> {
-            ThrownRosesReturn x = under(15, 3);
+            ThrownRosesReturn x = Stands.under(15, 3);
             x.person(0, 0, 13);
             x.person(2, 0, 17);
             t.due("as near, but reaches less", x.caught(0, 0, 0), 1);
@@ -143,14 +135,14 @@ final class ThrowSentences {
             t.due("of all beneath", x.caught(0, 0, 0), 0);
         });
         t.terms(20, "NONE: nobody.", () -> {
-            ThrownRosesReturn x = under(15, 3);
+            ThrownRosesReturn x = Stands.under(15, 3);
             t.taken("of none", x, () -> x.caught(0, 0, 0), Town.NONE);
             x.person(0, 0, 17);
             t.taken("of one too far", x, () -> x.caught(0, 0, 0), Town.NONE);
-            ThrownRosesReturn y = under(29, 3);
+            ThrownRosesReturn y = Stands.under(29, 3);
             y.person(4, 0, 29);
             t.taken("off the street, though not too far", y, () -> y.caught(0, 1, 1), Town.NONE);
-            ThrownRosesReturn z = under(0, 3);
+            ThrownRosesReturn z = Stands.under(0, 3);
             z.person(4, 0, 0);
             t.taken("below the first cell", z, () -> z.caught(0, 1, 2), Town.NONE);
         });
@@ -158,7 +150,7 @@ final class ThrowSentences {
 
     private static void withoutRose(Sentences t) {
         t.terms(54, "without a ROSE", () -> {
-            ThrownRosesReturn x = under(15, 3);
+            ThrownRosesReturn x = Stands.under(15, 3);
             x.person(0, 5, 15);
             x.person(2, 5, 17);
             t.due("the nearest", x.thrown(0, 0, 0), 0);
@@ -171,7 +163,7 @@ final class ThrowSentences {
 
     private static void horses(Sentences t) {
         t.terms(20, "a HORSE only if nobody else does", () -> {
-            ThrownRosesReturn x = under(15, 3);
+            ThrownRosesReturn x = Stands.under(15, 3);
             x.person(5, 0, 15);
             t.due("alone", x.caught(0, 0, 0), 0);
             x.person(4, 0, 18);
@@ -191,7 +183,7 @@ final class ThrowSentences {
         t.terms(20, "REACH: CATCHER, HORSE 1; SHY, TIMID 0; BOLD 2; RAKE 3.", () -> {
             int[] reach = {1, 0, 2, 0, 3, 1};
             for (int kind = 0; kind < 6; kind++) {
-                ThrownRosesReturn x = under(15, 3);
+                ThrownRosesReturn x = Stands.under(15, 3);
                 x.person(kind, 9, 15);
                 for (int off = 0; off <= 4; off++) {
                     int due = off <= reach[kind] ? 0 : Town.NONE;
@@ -205,7 +197,7 @@ final class ThrowSentences {
 
     /** How slow one is who is of a kind and an a, with a rose of a floor. */
     private static int slow(int kind, int a, int floor) {
-        ThrownRosesReturn x = under(15, floor);
+        ThrownRosesReturn x = Stands.under(15, floor);
         x.person(kind, a, 0);
         return x.slow(0, 0);
     }
@@ -232,7 +224,7 @@ final class ThrowSentences {
 
     private static void comes(Sentences t) {
         t.terms(22, "He COMES, if DAY and SLOW together are LENT at most", () -> {
-            ThrownRosesReturn x = under(15, 5);
+            ThrownRosesReturn x = Stands.under(15, 5);
             x.person(0, 9, 15);
             comesAt(t, x, 31, 40, 1);
             comesAt(t, x, 32, 40, 0);
@@ -253,7 +245,7 @@ final class ThrowSentences {
         });
         t.terms(22, "a HORSE only to FLOOR 1.", () -> {
             for (int floor = 1; floor <= 5; floor++) {
-                ThrownRosesReturn x = under(15, floor);
+                ThrownRosesReturn x = Stands.under(15, floor);
                 x.person(5, 0, 15);
                 t.due("to floor " + floor, x.comes(0, 0), floor == 1 ? 1 : 0);
                 x.tell(2, 10);

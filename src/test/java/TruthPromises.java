@@ -173,11 +173,37 @@ final class TruthPromises {
             y.paves(30);
             y.back();
             t.due("the later image", y.status(2), 20);
+            pairsBehind(t);
         });
         t.promise(59, "STUCK: nothing was.", () -> {
             t.refused("on a new object", ThrownRosesReturn::new, ThrownRosesReturn::back, Town.STUCK);
             t.refused("on a full street", Stands::full, ThrownRosesReturn::back, Town.STUCK);
         });
+    }
+
+    /** PAIRS of a street that had more windows and people in between. */
+    private static void pairsBehind(Sentences t) {
+        for (int windows = 0; windows <= 3; windows++) {
+            for (int people = 0; people <= 3; people++) {
+                ThrownRosesReturn x = new ThrownRosesReturn();
+                for (int w = 0; w < windows; w++) {
+                    x.window(5, 3, 0);
+                }
+                for (int p = 0; p < people; p++) {
+                    x.person(1, 0, p);
+                }
+                x.image();
+                for (int more = 3; more < 6; more++) {
+                    x.window(5, 3, 0);
+                    x.person(1, 0, more);
+                    x.pairs(-1);
+                }
+                x.back();
+                String of = "of " + windows + " windows and " + people + " people ";
+                t.due(of + "together", x.pairs(-1), 10 * Math.min(windows, people));
+                t.due(of + "how many", x.pairs(-2), Math.min(windows, people));
+            }
+        }
     }
 
     private static void backShelves(Sentences t) {
@@ -205,9 +231,13 @@ final class TruthPromises {
             ThrownRosesReturn y = new ThrownRosesReturn();
             y.image();
             y.person(0, 0, 0);
-            y.show(7, 0);
+            for (int s = 0; s < 8; s++) {
+                y.show(s, 0);
+            }
             y.back();
-            t.due("of none", y.holds(7), Town.NONE);
+            for (int s = 0; s < 8; s++) {
+                t.due("of none, holds(" + s + ")", y.holds(s), Town.NONE);
+            }
             ThrownRosesReturn z = new ThrownRosesReturn();
             z.person(1, 3, 0);
             z.person(1, 4, 0);
